@@ -649,10 +649,10 @@ public final class MileRoad {
         }
 
         private static int sortOf(int letter) {
-            if (within(letter, 'a', 'z')) {
+            if (letter >= 'a' && letter <= 'z') {
                 return SMALL;
             }
-            return within(letter, '0', '9') ? DIGIT : OTHER;
+            return letter >= '0' && letter <= '9' ? DIGIT : OTHER;
         }
     }
 

@@ -95,7 +95,26 @@ public final class DoneTest {
             DUE.due(12, "the mile at " + left, 12 + left, x.count(2));
         }
         DUE.due(12, "undo() of a ninth", MileRoad.NOT, x.undo());
+        deedsOfAllSorts();
         DUE.due(12, "the mile yet", 12, x.count(2));
+    }
+
+    private static void deedsOfAllSorts() {
+        MileRoad x = Due.told(TWO);
+        for (int step = 1; step <= 4; step++) {
+            x.flatten(step, 9);
+            x.walks(step % 2, 1);
+            x.mile(10 + step);
+        }
+        for (int left = 7; left >= 0; left--) {
+            DUE.due(12, "undo() of all sorts to " + left, left, x.undo());
+        }
+        DUE.due(12, "step(1)", 9, x.step(1));
+        DUE.due(12, "step(2)", 9, x.step(2));
+        DUE.due(12, "step(3)", 3, x.step(3));
+        DUE.due(12, "step(4)", 3, x.step(4));
+        DUE.due(12, "he has walked", 2, x.count(3));
+        DUE.due(12, "the mile of the first", 11, x.count(2));
     }
 
     private static void refusedIsNotUndone() {

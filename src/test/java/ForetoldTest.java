@@ -11,6 +11,7 @@ public final class ForetoldTest {
         nobodyIsSent();
         refusedSend();
         oneIsSentByTurns();
+        sixByTurns();
         passing();
         nothingIsChanged();
         refusedTurns();
@@ -53,6 +54,8 @@ public final class ForetoldTest {
         send(Due.walked(far, 2), 1, 4, 1, 1);
         send(Due.walked(far, 2, 3), 1, 4, 1, 3);
         send(Due.walked(far, 2, 3), 1, 3, 1, 1);
+        // 3 at 3; 0 and 1 together come to 5, 2 alone does, too.
+        send(Due.walked("road 8; mile 9; back 2; back 2; back 6; steady 1", 3), 1, 5, 1, 4);
     }
 
     private static void nobodyIsSent() {
@@ -88,6 +91,18 @@ public final class ForetoldTest {
         turns(Due.told(FOUR), 1, 7, 3, 0);
         turns(Due.walked(FOUR, 1, 2, 3), 4, 11, 3, MileRoad.NONE);
         turns(Due.walked(FOUR, 0, 1, 2), 4, 17, 4, 3);
+    }
+
+    private static void sixByTurns() {
+        // All six at 2: whoever is sent and whoever passes then, it stands there.
+        turns(Due.told("mile 6; steady 1; steady 1; steady 1; steady 1; steady 1; steady 1"), 1, 2, 1, 0);
+        // The near one passes, lest he who comes back to 10 is sent.
+        MileRoad five = Due.walked("mile 6; steady 1; steady 1; steady 1; steady 1; steady 1; back 1", 0, 1, 2, 3, 4);
+        turns(five, 1, 2, 1, MileRoad.NONE);
+        MileRoad four = Due.walked("mile 6; steady 1; steady 1; steady 1; steady 1; steady 1; back 1", 0, 1, 2, 3);
+        turns(four, 1, 2, 1, MileRoad.NONE);
+        MileRoad last = Due.walked("mile 6; steady 1; back 1; back 1; back 1; back 1; back 1", 1, 2, 3, 4, 5);
+        turns(last, 1, 26, 3, 0);
     }
 
     private static void passing() {

@@ -107,6 +107,9 @@ public final class StonesTest {
         // Only the seventh and the eighth stand at one place.
         DUE.due(17, "crossed() at the last ones", 7,
             Due.walked("road 8; hill 1 7 1; hill 8 8 2; mile 1; drunk 7", 0).crossed());
+        // A ninth would stand with the eighth, but there is none.
+        DUE.due(17, "crossed() behind the last ones", MileRoad.NONE,
+            Due.walked("road 8; hill 1 8 1; mile 1; drunk 8", 0).crossed());
     }
 
     private static void books(MileRoad x, int a, int b, int want) {
@@ -126,6 +129,8 @@ public final class StonesTest {
         books(two, 5, 6, 2);
         books(two, 3, 3, 0);
         books(two, 4, 4, 0);
+        books(Due.walked("road 8; mile 3; steady 1", 0), 0, 8, 8);
+        books(Due.walked("road 8; mile 3; steady 1", 0), 7, 8, 1);
         // Those at the beginning itself are beyond no place.
         books(Due.walked(FOUR, 3), 0, 6, 4);
         int[][] wrong = {{-1, 0}, {0, -1}, {7, 0}, {0, 7}, {Integer.MAX_VALUE, 0}, {0, Integer.MIN_VALUE}};

@@ -93,6 +93,12 @@ public final class WalkersTest {
         for (int step = 1; step <= 6; step++) {
             DUE.due(8, "step(" + step + ")", hard[step - 1], x.step(step));
         }
+        MileRoad longest = Due.told("road 20; hill 20 20 8; steady 1; back 1");
+        DUE.due(8, "step(20)", 8, longest.step(20));
+        DUE.due(8, "step(19)", 3, longest.step(19));
+        DUE.due(8, "step(21)", MileRoad.OUTSIDE, longest.step(21));
+        DUE.due(7, "as(0, 0) of 20 steps", 8, longest.as(0, 0));
+        DUE.due(6, "walker(1, 4) of 20 steps", 85, longest.walker(1, 4));
         for (int step : new int[] {-1, 0, 7, 21, Integer.MAX_VALUE, Integer.MIN_VALUE}) {
             DUE.due(8, "step(" + step + ")", MileRoad.OUTSIDE, x.step(step));
         }
