@@ -12,6 +12,7 @@ public final class ForetoldTest {
         refusedSend();
         oneIsSentByTurns();
         sixByTurns();
+        oneGameAfterAnother();
         passing();
         nothingIsChanged();
         refusedTurns();
@@ -103,6 +104,19 @@ public final class ForetoldTest {
         turns(four, 1, 2, 1, MileRoad.NONE);
         MileRoad last = Due.walked("mile 6; steady 1; back 1; back 1; back 1; back 1; back 1", 1, 2, 3, 4, 5);
         turns(last, 1, 26, 3, 0);
+    }
+
+    private static void oneGameAfterAnother() {
+        MileRoad x = Due.walked(FOUR, 3);
+        turns(x, 4, 2, 1, MileRoad.NONE);
+        turns(x, 8, 6, 1, 0);
+        turns(x, 4, 2, 1, MileRoad.NONE);
+        x.walks(3, 0);
+        turns(x, 1, 7, 3, 0);
+        turns(x, 8, 6, 1, 0);
+        x.walks(1, 1);
+        x.walks(2, 1);
+        turns(x, 4, 17, 4, 3);
     }
 
     private static void passing() {

@@ -114,7 +114,12 @@ public final class TextTest {
         fault("hill 1 old 3", 7);
         fault("nobody 5", 7);
         fault("nobody5", 6);
-        fault("nobodyx", 0);
+        fault("nobodya", 0);
+        fault("nobodyz", 0);
+        fault("nobody`", 6);
+        fault("nobody{", 6);
+        fault("nobody;mile/", 11);
+        fault("nobody;mile:", 11);
         fault("nobody nobody", 7);
         fault("mile 10 10", 8);
         fault("road 12 mile 10", 8);
