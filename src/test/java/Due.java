@@ -1,57 +1,91 @@
-/** What the tests share: answers held against those that are due, and objects that a text was told to. */
+import java.lang.reflect.InvocationTargetException;
+import java.lang.reflect.Method;
+import java.util.ArrayList;
+import java.util.Arrays;
+import java.util.Comparator;
+import java.util.List;
+import java.util.function.Supplier;
+import java.util.function.ToIntFunction;
+
+/** One test's answers, held against those that are due. */
 final class Due {
     private static final int MOST_TOLD = 40;
 
-    private int wrong;
+    private final List<String> faults = new ArrayList<>();
     private int calls;
 
-    void due(int promise, String call, long want, long got) {
+    void is(String call, long want, long got) {
         calls++;
         if (got != want) {
-            wrong++;
-            if (wrong <= MOST_TOLD) {
-                System.out.println("promise " + promise + ": " + call + " answered " + got + ", due is " + want);
-            }
+            faults.add(call + " answered " + got + ", due is " + want);
         }
     }
 
-    static void write(MileRoad x, String text) {
-        for (int i = 0; i < text.length(); i++) {
-            x.write(text.charAt(i));
+    /** The call is made on an object of its own, and nothing may be changed behind it. */
+    void refused(int want, Supplier<MileRoad> made, String call, ToIntFunction<MileRoad> asked) {
+        is(call, want, asked.applyAsInt(made.get()));
+        changesNothing(made, call, asked);
+    }
+
+    void changesNothing(Supplier<MileRoad> made, String call, ToIntFunction<MileRoad> asked) {
+        calls++;
+        for (String changed : Look.changedBy(made, asked)) {
+            faults.add(call + " changed " + changed);
         }
-    }
-
-    static MileRoad told(String text) {
-        MileRoad x = new MileRoad();
-        tell(x, text);
-        return x;
-    }
-
-    static void tell(MileRoad x, String text) {
-        write(x, text);
-        if (x.road() < 1) {
-            throw new IllegalStateException("the text has a fault: " + text);
-        }
-    }
-
-    static int faultOf(MileRoad x, String text) {
-        x.erase();
-        write(x, text);
-        return x.fault();
-    }
-
-    static MileRoad walked(String text, int... walkers) {
-        MileRoad x = told(text);
-        for (int walker : walkers) {
-            x.walks(walker, 1);
-        }
-        return x;
     }
 
     void end(String test) {
-        System.out.println(test + ": " + calls + " answers, " + wrong + " not as due");
-        if (wrong != 0 || calls == 0) {
+        tell(test, faults);
+        System.out.println(test + ": " + calls + " answers, " + faults.size() + " not as due");
+        if (!faults.isEmpty() || calls == 0) {
             System.exit(1);
+        }
+    }
+
+    /** The tests of a class: those that say what words of the document they are for. */
+    static List<Method> testsOf(Class<?> tests) {
+        List<Method> found = new ArrayList<>();
+        for (Method method : tests.getDeclaredMethods()) {
+            if (method.isAnnotationPresent(Says.class)) {
+                found.add(method);
+            }
+        }
+        found.sort(Comparator.comparing(Method::getName));
+        return found;
+    }
+
+    static List<String> faultsOf(Method test) throws IllegalAccessException {
+        Due due = new Due();
+        try {
+            test.invoke(null, due);
+        } catch (InvocationTargetException e) {
+            due.faults.add("it ended by " + e.getCause());
+        }
+        if (due.calls == 0) {
+            due.faults.add("it asks nothing");
+        }
+        return due.faults;
+    }
+
+    static void runAll(Class<?> tests) throws IllegalAccessException {
+        int wrong = 0;
+        List<Method> found = testsOf(tests);
+        for (Method test : found) {
+            List<String> faults = faultsOf(test);
+            if (!faults.isEmpty()) {
+                wrong++;
+                tell(test.getName() + " " + Arrays.toString(test.getAnnotation(Says.class).value()), faults);
+            }
+        }
+        System.out.println(tests.getName() + ": " + found.size() + " tests, " + wrong + " failed");
+        if (wrong != 0 || found.isEmpty()) {
+            System.exit(1);
+        }
+    }
+
+    private static void tell(String test, List<String> faults) {
+        for (int i = 0; i < Math.min(faults.size(), MOST_TOLD); i++) {
+            System.out.println(test + ": " + faults.get(i));
         }
     }
 }

@@ -38,7 +38,7 @@ public final class ModelTest {
 
     private void same(int promise, String call, long want, long got) {
         calls++;
-        DUE.due(promise, "run " + seed + ", call " + calls + ": " + call, want, got);
+        DUE.is("promise " + promise + ", run " + seed + ", call " + calls + ": " + call, want, got);
     }
 
     private void tell(String text) {
