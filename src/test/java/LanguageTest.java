@@ -23,8 +23,8 @@ public final class LanguageTest {
         "seen(int,int,int)", "forget()", "what(int)", "miles(int)", "cider(int,int,int,int)", "count(int)"};
     private static final String[] CONSTANTS = {"NONE", "UNKNOWN", "OUTSIDE", "NOT", "FULL"};
     private static final String[] NEVER = {
-        "throw", "throws", "try", "catch", "finally", "synchronized", "assert", "import", "package", "protected",
-        "native", "volatile", "transient", "strictfp", "equals", "hashCode", "toString", "Object", "Exception"};
+        "throw", "throws", "try", "catch", "finally", "synchronized", "assert", "package", "protected",
+        "native", "volatile", "transient", "strictfp", "hashCode", "Object", "Exception"};
     private static final int MOST_LINES = 60;
     private static final int MOST_FIELDS = 20;
     private static final int MOST_CLASSES = 12;
@@ -128,10 +128,26 @@ public final class LanguageTest {
         rule(2, "a method reference", !code.contains("::"));
         rule(2, "an anonymous class", !Pattern.compile("new \\w+\\([^;]*\\)\\s*\\{").matcher(code).find());
         rule(5, "a static block", !Pattern.compile("static\\s*\\{").matcher(code).find());
+        Matcher imports = Pattern.compile("\\bimport\\b[^;]*;").matcher(code);
+        while (imports.find()) {
+            rule(4, imports.group(), imports.group().matches("import java\\.util\\.(ArrayList|Arrays|Iterator|List);"));
+        }
         Matcher library = Pattern.compile("\\b(Integer|Long|Math|System|Arrays|Character)\\.(\\w+)").matcher(code);
-        Set<String> listed = Set.of("bitCount", "min", "max");
         while (library.find()) {
-            rule(4, library.group(), listed.contains(library.group(2)));
+            rule(4, library.group(), isListed(library.group(1), library.group(2)));
+        }
+    }
+
+    private static boolean isListed(String name, String function) {
+        switch (name) {
+            case "System":
+                return function.equals("arraycopy");
+            case "Arrays":
+                return Set.of("copyOf", "copyOfRange", "fill").contains(function);
+            case "Character":
+                return false;
+            default:
+                return !function.endsWith("Exact");
         }
     }
 

@@ -9,7 +9,8 @@ import java.util.function.ToIntFunction;
 /** What calls can show of an object. Most looks change it, so that each has an object made for it. */
 final class Look {
     private static final Map<String, Function<MileRoad, List<Integer>>> LOOKS = new TreeMap<>(Map.of(
-        "what stands", Look::whatStands,
+        "what is asked", Look::asked,
+        "what was, by what is done", Look::done,
         "what can be undone", Look::undone,
         "what 0 keeps", x -> broughtBack(x, 0),
         "what 1 keeps", x -> broughtBack(x, 1),
@@ -32,7 +33,7 @@ final class Look {
         return changed;
     }
 
-    private static List<Integer> whatStands(MileRoad x) {
+    private static List<Integer> asked(MileRoad x) {
         List<Integer> answers = road(x);
         for (int what = 0; what <= 8; what++) {
             answers.add(x.count(what));
@@ -61,6 +62,18 @@ final class Look {
         return answers;
     }
 
+    /** What each call that changes something says of what was; so no question is asked that might change it first. */
+    private static List<Integer> done(MileRoad x) {
+        List<Integer> answers = new ArrayList<>(List.of(x.forget(), x.erase(), x.mile(1)));
+        for (int walker = 0; walker < 6; walker++) {
+            answers.add(x.walks(walker, 0));
+        }
+        for (int step = 1; step <= 20; step++) {
+            answers.add(x.flatten(step, 1));
+        }
+        return answers;
+    }
+
     private static List<Integer> undone(MileRoad x) {
         List<Integer> answers = new ArrayList<>();
         for (int i = 0; i < 9; i++) {
@@ -72,20 +85,20 @@ final class Look {
 
     private static List<Integer> broughtBack(MileRoad x, int k) {
         List<Integer> answers = new ArrayList<>(List.of(x.back(k)));
-        answers.addAll(whatStands(x));
+        answers.addAll(asked(x));
         return answers;
     }
 
     private static List<Integer> told(MileRoad x) {
         List<Integer> answers = new ArrayList<>(List.of(x.road()));
-        answers.addAll(whatStands(x));
+        answers.addAll(asked(x));
         return answers;
     }
 
     private static List<Integer> toldBefore(MileRoad x) {
         List<Integer> answers = new ArrayList<>(List.of(x.erase()));
         Roads.tell(x, "nobody");
-        answers.addAll(whatStands(x));
+        answers.addAll(asked(x));
         return answers;
     }
 }

@@ -152,13 +152,13 @@ public final class NewTest {
 
     @Says("more of THE TEXT")
     static void p02ChangesTheTextAlone(Due due) {
-        due.changesNothing(NewTest::someWithoutText, "write(97) and erase()", x -> x.write('a') + x.erase());
+        due.changesNothing(Roads::unwritten, "write(97) and erase()", x -> x.write('a') + x.erase());
     }
 
     @Says("how many letters it had")
     static void p03OfAnEmptyText(Due due) {
         due.is("erase() of a new object", 0, new MileRoad().erase());
-        due.changesNothing(NewTest::someWithoutText, "erase()", MileRoad::erase);
+        due.changesNothing(Roads::unwritten, "erase()", MileRoad::erase);
     }
 
     @Says("how many letters it had")
@@ -186,11 +186,5 @@ public final class NewTest {
         due.is("fault() of a shorter text", MileRoad.NONE, x.fault());
         due.is("road()", 1, x.road());
         due.is("count(2)", 4, x.count(2));
-    }
-
-    private static MileRoad someWithoutText() {
-        MileRoad x = Roads.some();
-        x.erase();
-        return x;
     }
 }

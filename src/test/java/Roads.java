@@ -50,8 +50,8 @@ final class Roads {
         return x;
     }
 
-    /** Something of all: a text begun, two seen, five that can be undone, the first one kept. */
-    static MileRoad some() {
+    /** Two seen, five that can be undone, the first one kept, no text. */
+    static MileRoad unwritten() {
         MileRoad x = walked(FOUR, 0);
         x.keep(0);
         x.walks(3, 1);
@@ -60,6 +60,12 @@ final class Roads {
         x.mile(6);
         x.seen(1, 1, 1);
         x.seen(2, 3, 4);
+        return x;
+    }
+
+    /** Something of all: the same, and a text begun. */
+    static MileRoad some() {
+        MileRoad x = unwritten();
         write(x, "mile 2;back 3");
         return x;
     }

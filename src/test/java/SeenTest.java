@@ -249,6 +249,7 @@ public final class SeenTest {
 
     @Says("UNKNOWN")
     static void p23UnknownAboveTheLast(Due due) {
+        due.is("what(5) of six", 15, Roads.told(Roads.FIVE_WALKERS + ";back 9").what(5));
         for (int walker : new int[] {4, 5, 6, Integer.MAX_VALUE}) {
             due.refused(MileRoad.UNKNOWN, Roads::some, "what(" + walker + ")", x -> x.what(walker));
         }
@@ -570,6 +571,7 @@ public final class SeenTest {
         due.is("count(5) of none who has one", 0, Roads.walked("road 4;mile 13;steady 1", 0).count(5));
         due.is("count(5) of two", 5, Roads.walked(Roads.FOUR, 0, 1).count(5));
         due.is("count(5) of all eight", 8, Roads.walked("road 8;mile 3;steady 1", 0).count(5));
+        due.is("count(5) with room for a ninth", 8, Roads.walked("road 9;mile 3;steady 1", 0).count(5));
     }
 
     @Says("5 STONES that stand by THE LAW")

@@ -123,6 +123,7 @@ public final class StonesTest {
 
     @Says("UNKNOWN")
     static void p15UnknownAboveTheLast(Due due) {
+        due.is("stone(5, 1) of six", 11, Roads.told(Roads.FIVE_WALKERS + ";back 9").stone(5, 1));
         for (int walker : new int[] {4, 6, Integer.MAX_VALUE}) {
             due.refused(MileRoad.UNKNOWN, Roads::some, "stone(" + walker + ", 1)", x -> x.stone(walker, 1));
         }
@@ -358,6 +359,13 @@ public final class StonesTest {
     static void p17ChangesNothing(Due due) {
         due.changesNothing(Roads::some, "crossed()", MileRoad::crossed);
         due.changesNothing(Roads::full, "crossed()", MileRoad::crossed);
+        due.changesNothing(StonesTest::oneSeen, "crossed() of none", MileRoad::crossed);
+    }
+
+    private static MileRoad oneSeen() {
+        MileRoad x = Roads.walked(Roads.FOUR, 0);
+        x.seen(0, 1, 1);
+        return x;
     }
 
     // ---- books
@@ -389,6 +397,13 @@ public final class StonesTest {
         books(due, x, 0, 20, 8);
         books(due, x, 19, 20, 1);
         books(due, x, 0, 19, 7);
+    }
+
+    @Says("how many STONES stand by THE LAW")
+    static void p18NoNinth(Due due) {
+        MileRoad x = Roads.walked("road 9;mile 3;steady 1", 0);
+        books(due, x, 0, 9, 8);
+        books(due, x, 8, 9, 0);
     }
 
     @Says("beyond the nearer one of both")

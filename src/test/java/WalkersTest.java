@@ -263,6 +263,7 @@ public final class WalkersTest {
 
     @Says("UNKNOWN")
     static void p07Unknown(Due due) {
+        as(due, Roads.told(Roads.FIVE_WALKERS + ";back 9"), 5, 4, 12);
         for (int walker : new int[] {-1, 4, 6, Integer.MAX_VALUE, Integer.MIN_VALUE}) {
             due.refused(MileRoad.UNKNOWN, Roads::some, "as(" + walker + ", 0)", x -> x.as(walker, 0));
         }
