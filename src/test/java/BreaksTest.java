@@ -22,8 +22,8 @@ import javax.tools.SimpleJavaFileObject;
 import javax.tools.ToolProvider;
 
 /**
- * Each test of a sentence fails where that sentence is broken. Not the program is broken here, so that it can be written
- * anew at any time, but the Model: it takes the program's place, with one of the breaks of breaks.txt at a time.
+ * Each test of a sentence fails where that sentence is broken. Not the program is broken here, so that it can be
+ * written anew at any time, but the Model: it takes the program's place, with one break of breaks.txt at a time.
  */
 public final class BreaksTest {
     private static final Path MODEL = Path.of("src/test/java/Model.java");
@@ -52,7 +52,7 @@ public final class BreaksTest {
         }
     }
 
-    /** Parts with empty lines between, each line of which begins with what it is; where "in" is, it is for all behind it. */
+    /** Parts with empty lines between, each line begins with what it is; an "in" is for all breaks behind it. */
     private static List<Break> breaksOf(String text) {
         List<Break> breaks = new ArrayList<>();
         String in = "";

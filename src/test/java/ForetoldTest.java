@@ -64,7 +64,7 @@ public final class ForetoldTest {
 
     @Says("the fewest")
     static void p19TheFewest(Due due) {
-        // At 5 5 1 7 by 3 who is at 2; 0 and 1 together come to 4, 3 alone does, too.
+        // At 6 6 7 3: with 3, who has walked, 0 and 1 together come to 5, and 2 alone does.
         MileRoad x = Roads.walked("road 8;mile 9;back 2;back 2;back 6;steady 1", 3);
         send(due, x, 1, 5, FAR, 4);
         send(due, Roads.walked(Roads.FOUR + ";steady 2;old 2", 3), 1, 2, NEAR, 7);
@@ -200,7 +200,7 @@ public final class ForetoldTest {
         turns(due, Roads.told(Roads.FOUR), 8, 6, 1, 0);
         turns(due, Roads.walked(Roads.FOUR, 0), 8, 6, 1, 1);
         turns(due, Roads.walked(Roads.FOUR, 0, 1, 2, 3), 8, 6, 1, NO);
-        // Only 3 has stone 7, at 0: sent by the first one, none sends another who has it.
+        // Only 3 has stone 7, at 0: the first one sends him, and nobody moves it then.
         turns(due, Roads.told(Roads.FOUR), 7, 0, 1, 3);
     }
 

@@ -15,7 +15,8 @@ public final class StonesTest {
         }
     }
 
-    @Says({"He goes over STEPS 1 .. n", "STONE k (1 .. 8) of a WALKER stands where he has gone by then", "STONE k of a WALKER; NONE"})
+    @Says({"He goes over STEPS 1 .. n", "STONE k (1 .. 8) of a WALKER stands where he has gone by then",
+        "STONE k of a WALKER; NONE"})
     static void p15OfASteadyOne(Due due) {
         stones(due, Roads.told(Roads.FOUR), 0, 1, 2, 4, 6, NO, NO, NO, NO);
     }
@@ -215,7 +216,7 @@ public final class StonesTest {
 
     @Says({"a fraction", "Parts are told in lowest terms: above (part 0), below (1)."})
     static void p16InLowestTerms(Due due) {
-        // Six at 1 or 2: where five are at 2, four, three.
+        // Six at 1 or 2: two at 2, then three, then four.
         MileRoad x = Roads.walked("mile 6;steady 1;steady 2;drunk 1;drunk 1;drunk 1;drunk 1", 0, 1, 2, 3, 4, 5);
         law(due, x, 1, 4, 3);
         MileRoad y = Roads.walked("mile 6;steady 1;steady 2;steady 3;drunk 1;drunk 1;drunk 1", 0, 1, 2, 3, 4, 5);
@@ -307,7 +308,7 @@ public final class StonesTest {
     @Says("and the latter no further from the beginning than the former")
     static void p17NearerTheBeginning(Due due) {
         due.is("crossed() of one who goes back", 1, Roads.walked(Roads.FOUR, 3).crossed());
-        // 4 3 2 1 0 to 1 2 4 none: 5/2 5/2 3 1 0
+        // At 2 5 and 4 3 3 2 1 1 0: by the law 3, 4, 3 and so on.
         MileRoad x = Roads.walked("road 5;hill 2 2 5;hill 3 3 2;hill 4 4 5;mile 8;steady 1;back 9", 0, 1);
         due.is("crossed() of 3 and what is behind", 2, x.crossed());
     }

@@ -206,7 +206,8 @@ public final class WalkersTest {
         as(due, x, 3, 4, 11);
     }
 
-    @Says({"FELT at his g-th step (g 1 ..) a STEP is by a STEADY one as much as it is HARD", "what he FELT at his n-th step"})
+    @Says({"FELT at his g-th step (g 1 ..) a STEP is by a STEADY one as much as it is HARD",
+        "what he FELT at his n-th step"})
     static void p07ASteadyOne(Due due) {
         MileRoad x = Roads.told("road 5;hill 1 1 8;hill 4 4 7;steady 1;steady 5;steady 9");
         for (int walker = 0; walker < 3; walker++) {
