@@ -1,10 +1,6 @@
-import java.io.ByteArrayOutputStream;
 import java.io.IOException;
 import java.io.InputStream;
-import java.io.OutputStream;
-import java.io.StringWriter;
 import java.lang.reflect.Method;
-import java.net.URI;
 import java.nio.file.Files;
 import java.nio.file.Path;
 import java.util.ArrayList;
@@ -13,13 +9,6 @@ import java.util.List;
 import java.util.Map;
 import java.util.Set;
 import java.util.TreeSet;
-import javax.tools.FileObject;
-import javax.tools.ForwardingJavaFileManager;
-import javax.tools.JavaCompiler;
-import javax.tools.JavaFileManager;
-import javax.tools.JavaFileObject;
-import javax.tools.SimpleJavaFileObject;
-import javax.tools.ToolProvider;
 
 /**
  * Each test of a sentence fails where that sentence is broken. Not the program is broken here, so that it can be
@@ -103,7 +92,7 @@ public final class BreaksTest {
     private static Set<String> failing(String code, Set<String> tests) {
         Set<String> failing = new TreeSet<>();
         try {
-            ClassLoader loader = new Replaced(compiled(code));
+            ClassLoader loader = new Replaced(Compiled.of("MileRoad", code));
             Class<?> due = loader.loadClass("Due");
             Method testsOf = due.getDeclaredMethod("testsOf", Class.class);
             Method faultsOf = due.getDeclaredMethod("faultsOf", Method.class);
@@ -123,43 +112,11 @@ public final class BreaksTest {
         return failing;
     }
 
-    private static Map<String, ByteArrayOutputStream> compiled(String code) {
-        Map<String, ByteArrayOutputStream> classes = new HashMap<>();
-        JavaCompiler compiler = ToolProvider.getSystemJavaCompiler();
-        JavaFileManager inMemory = new ForwardingJavaFileManager<JavaFileManager>(
-            compiler.getStandardFileManager(null, null, null)) {
-            @Override
-            public JavaFileObject getJavaFileForOutput(Location place, String name, JavaFileObject.Kind kind,
-                FileObject from) {
-                return new SimpleJavaFileObject(URI.create("memory:///" + name), kind) {
-                    @Override
-                    public OutputStream openOutputStream() {
-                        ByteArrayOutputStream bytes = new ByteArrayOutputStream();
-                        classes.put(name, bytes);
-                        return bytes;
-                    }
-                };
-            }
-        };
-        JavaFileObject source = new SimpleJavaFileObject(URI.create("memory:///MileRoad.java"),
-            JavaFileObject.Kind.SOURCE) {
-            @Override
-            public CharSequence getCharContent(boolean ignoresErrors) {
-                return code;
-            }
-        };
-        StringWriter told = new StringWriter();
-        if (!compiler.getTask(told, inMemory, null, List.of("-proc:none"), null, List.of(source)).call()) {
-            throw new IllegalArgumentException(told.toString());
-        }
-        return classes;
-    }
-
     /** Takes those classes for the program's and loads the tests anew with them. */
     private static final class Replaced extends ClassLoader {
-        private final Map<String, ByteArrayOutputStream> classes;
+        private final Map<String, byte[]> classes;
 
-        Replaced(Map<String, ByteArrayOutputStream> classes) {
+        Replaced(Map<String, byte[]> classes) {
             super(ClassLoader.getPlatformClassLoader());
             this.classes = classes;
         }
@@ -170,7 +127,7 @@ public final class BreaksTest {
                 if (!classes.containsKey(name) && test == null) {
                     throw new ClassNotFoundException(name);
                 }
-                byte[] bytes = classes.containsKey(name) ? classes.get(name).toByteArray() : test.readAllBytes();
+                byte[] bytes = classes.containsKey(name) ? classes.get(name) : test.readAllBytes();
                 return defineClass(name, bytes, 0, bytes.length);
             } catch (IOException e) {
                 throw new ClassNotFoundException(name, e);

@@ -7,7 +7,9 @@ import java.nio.file.Files;
 import java.nio.file.Path;
 import java.util.Arrays;
 import java.util.HashSet;
+import java.util.Map;
 import java.util.Set;
+import java.util.TreeMap;
 import java.util.TreeSet;
 import java.util.regex.Matcher;
 import java.util.regex.Pattern;
@@ -15,13 +17,7 @@ import java.util.regex.Pattern;
 /** What of ../shared/LANGUAGE.md can be seen from outside: the face, the classes inside, and words that may not stand. */
 public final class LanguageTest {
     private static final Path PROGRAM = Path.of("src/main/java/MileRoad.java");
-    private static final String[] FACE = {
-        "write(int)", "erase()", "fault()", "road()", "walker(int,int)", "as(int,int)", "step(int)",
-        "walks(int,int)", "flatten(int,int)", "mile(int)", "undo()", "keep(int)", "back(int)",
-        "stone(int,int)", "law(int,int)", "crossed()", "books(int,int)",
-        "send(int,int,int)", "turns(int,int)",
-        "seen(int,int,int)", "forget()", "what(int)", "miles(int)", "cider(int,int,int,int)", "count(int)"};
-    private static final String[] CONSTANTS = {"NONE", "UNKNOWN", "OUTSIDE", "NOT", "FULL"};
+    private static final Path DOC = Path.of("../shared/DOC.md");
     private static final String[] NEVER = {
         "throw", "throws", "try", "catch", "finally", "synchronized", "assert", "package", "protected",
         "native", "volatile", "transient", "strictfp", "hashCode", "Object", "Exception"};
@@ -39,11 +35,13 @@ public final class LanguageTest {
         }
     }
 
-    public static void main(String[] args) throws IOException {
+    public static void main(String[] args) throws IOException, IllegalAccessException {
         String code = withoutCommentsAndTexts(Files.readString(PROGRAM));
-        theFace();
-        theConstants();
-        theClassesInside();
+        String doc = Files.readString(DOC);
+        String face = doc.substring(doc.indexOf("## The public face"), doc.indexOf("## Terms"));
+        theFace(callsOf(face));
+        theConstants(constantsOf(face));
+        theClassesInside(callsOf(face));
         wordsThatMayNotStand(code);
         lengthsOfMethods(code);
         System.out.println("LanguageTest: " + wrong + " rules are broken");
@@ -57,7 +55,25 @@ public final class LanguageTest {
         return method.getName() + "(" + types + ")";
     }
 
-    private static void theFace() {
+    private static Set<String> callsOf(String face) {
+        Set<String> calls = new TreeSet<>();
+        Matcher call = Pattern.compile("public int (\\w+)\\(([^)]*)\\);").matcher(face);
+        while (call.find()) {
+            calls.add(call.group(1) + "(" + call.group(2).replaceAll("int \\w+", "int").replace(" ", "") + ")");
+        }
+        return calls;
+    }
+
+    private static Map<String, Integer> constantsOf(String face) {
+        Map<String, Integer> constants = new TreeMap<>();
+        Matcher constant = Pattern.compile("(\\w+) = (-?\\d+)").matcher(face);
+        while (constant.find()) {
+            constants.put(constant.group(1), Integer.valueOf(constant.group(2)));
+        }
+        return constants;
+    }
+
+    private static void theFace(Set<String> due) {
         Set<String> face = new TreeSet<>();
         for (Method method : MileRoad.class.getDeclaredMethods()) {
             int signs = method.getModifiers();
@@ -67,7 +83,7 @@ public final class LanguageTest {
                 rule(1, nameOf(method) + " is not private", Modifier.isPrivate(signs));
             }
         }
-        rule(1, "the face is " + face, face.equals(new TreeSet<>(Arrays.asList(FACE))));
+        rule(1, "the face is " + face, face.equals(due) && !due.isEmpty());
         Constructor<?>[] made = MileRoad.class.getDeclaredConstructors();
         rule(1, "one public constructor of nothing",
             made.length == 1 && made[0].getParameterCount() == 0 && Modifier.isPublic(made[0].getModifiers()));
@@ -75,22 +91,22 @@ public final class LanguageTest {
         rule(1, "public and final", Modifier.isPublic(signs) && Modifier.isFinal(signs));
     }
 
-    private static void theConstants() {
-        Set<String> constants = new TreeSet<>();
+    private static void theConstants(Map<String, Integer> due) throws IllegalAccessException {
+        Map<String, Integer> constants = new TreeMap<>();
         for (Field field : MileRoad.class.getDeclaredFields()) {
             int signs = field.getModifiers();
             if (Modifier.isPublic(signs) && Modifier.isStatic(signs) && Modifier.isFinal(signs)) {
-                constants.add(field.getName());
+                constants.put(field.getName(), field.getInt(null));
             } else {
                 rule(1, field.getName() + " is not private", Modifier.isPrivate(signs));
             }
         }
-        rule(1, "the constants are " + constants, constants.equals(new TreeSet<>(Arrays.asList(CONSTANTS))));
+        rule(1, "the constants are " + constants, constants.equals(due) && !due.isEmpty());
     }
 
-    private static void theClassesInside() {
+    private static void theClassesInside(Set<String> calls) {
         Set<String> face = new HashSet<>();
-        for (String method : FACE) {
+        for (String method : calls) {
             face.add(method.substring(0, method.indexOf('(')));
         }
         Class<?>[] inside = MileRoad.class.getDeclaredClasses();
